@@ -1,0 +1,14 @@
+/** Runs every test of the project; ends with exit code 1 if one failed. */
+public final class AllTests {
+    private AllTests() {
+    }
+
+    public static void main(String[] arguments) {
+        FaceTest.run();
+        ModelTest.run();
+        System.out.println("checks: " + Check.passed + " passed, " + Check.failed + " failed");
+        if (Check.failed != 0) {
+            System.exit(1);
+        }
+    }
+}
