@@ -5,6 +5,13 @@ public final class AllTests {
 
     public static void main(String[] arguments) {
         FaceTest.run();
+        SettingsTest.run();
+        NodesTest.run();
+        RoundsTest.run();
+        ViewsTest.run();
+        MeasuresTest.run();
+        TextTest.run();
+        SaveTest.run();
         ModelTest.run();
         System.out.println("checks: " + Check.passed + " passed, " + Check.failed + " failed");
         if (Check.failed != 0) {
