@@ -140,11 +140,13 @@ public final class GossipMembership {
             throw new IllegalArgumentException("most is out of range");
         }
         int done = 0;
-        while (done < most && !world.allAgree()) {
+        boolean agreed = world.allAgree();
+        while (!agreed && done < most) {
             world.play(1);
             done++;
+            agreed = world.allAgree();
         }
-        if (!world.allAgree()) {
+        if (!agreed) {
             throw new NoSuchElementException("the nodes do not agree");
         }
         return done;
@@ -631,7 +633,7 @@ public final class GossipMembership {
         private boolean helpersReach(int node, int partner) {
             boolean reached = false;
             int left = knowledge.nodesInState(node, ALIVE) & ~(1 << partner);
-            for (int drawn = 0; drawn < helpers && left != 0; drawn++) {
+            for (int drawn = 0; drawn < helpers; drawn++) {
                 int helper = drawFrom(left);
                 if (helper == NOBODY) {
                     return reached;

@@ -76,6 +76,13 @@ final class MeasuresTest {
         Check.same("P25 in the same partition", g.disagreements(), 3);
         g.crash(2);
         Check.same("P25 and up", g.disagreements(), 0);
+        GossipMembership ends = Start.fresh();
+        ends.join(2, 2);
+        ends.join(3, 3);
+        ends.tell(2, 0, Start.ALIVE, 0);
+        Check.same("P25 about the first node", ends.disagreements(), 1);
+        ends.tell(3, 7, Start.ALIVE, 0);
+        Check.same("P25 about the last node", ends.disagreements(), 2);
         GossipMembership two = Start.fresh();
         two.join(0, 0);
         two.join(1, 1);

@@ -61,6 +61,15 @@ final class NodesTest {
         Check.same("P7 what it passes on", g.averageCounter(5), 30.0 / 8.0);
         Check.same("P7 no message is counted", g.messages(), 0);
         Check.same("P7 no refutation", g.refutations(), 1);
+        GossipMembership ends = Start.fresh();
+        ends.join(7, 7);
+        ends.tell(7, 0, Start.DEAD, 0);
+        ends.tell(7, 6, Start.ALIVE, 0);
+        Check.same("P7 by the last node", ends.join(0, 7), 1);
+        Check.same("P7 which knows the first then", ends.viewIncarnation(7, 0), 1);
+        Check.same("P7 whom it knew and itself", ends.alive(0), 0b11000000);
+        Check.same("P7 the last by the first", ends.crash(7) + ends.join(7, 0), 2);
+        Check.same("P7 the first and whom it knew", ends.alive(7), 0b1000001);
     }
 
     private static void joinAgain() {

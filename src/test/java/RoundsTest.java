@@ -140,6 +140,12 @@ final class RoundsTest {
         sender.rounds(1);
         Check.same("P11 a dead one is told of itself in the answer", sender.incarnation(7), 1);
         Check.same("P11 its own news came before", sender.view(6, 7), 3);
+        GossipMembership ahead = busyReceiver();
+        ahead.tell(7, 6, Start.ALIVE, 0);
+        Start.tellWithCount(ahead, 6, 7, Start.DEAD, 1);
+        ahead.rounds(1);
+        Check.same("P11 ahead of all else too", ahead.incarnation(7), 1);
+        Check.same("P11 without counting too", ahead.counter(6, 7), 1);
         GossipMembership alive = Start.prober();
         Start.tellWithCount(alive, 7, 6, Start.ALIVE, 1);
         for (int dead = 0; dead < 3; dead++) {
@@ -248,6 +254,20 @@ final class RoundsTest {
         suspect.setSeed(other);
         suspect.rounds(1);
         Check.same("P11 only alive ones help", suspect.seed(), Draws.after(other, 2));
+        GossipMembership ends = Start.fresh();
+        for (int node : new int[] {0, 3, 7}) {
+            ends.join(node, node);
+        }
+        ends.cut(3, 4, true);
+        ends.tell(3, 4, Start.ALIVE, 0);
+        ends.tell(3, 0, Start.ALIVE, 0);
+        ends.tell(3, 7, Start.ALIVE, 0);
+        int both = Draws.seedFor(3, 1, 2, 1);
+        ends.setSeed(both);
+        ends.setHelpers(3);
+        ends.rounds(1);
+        Check.same("P11 the first node and the last are drawn", ends.seed(), Draws.after(both, 3));
+        Check.same("P11 but do not reach the partner", ends.alive(3), 0b10000001);
         GossipMembership second = unanswered(2);
         second.join(4, 4);
         second.tell(0, 4, Start.ALIVE, 0);
@@ -299,6 +319,14 @@ final class RoundsTest {
         g.crash(0);
         g.rounds(5);
         Check.same("P11 not by one that is down", g.view(0, 5), 2);
+        GossipMembership ends = Start.fresh();
+        ends.join(3, 3);
+        ends.setPatience(1);
+        ends.tell(3, 0, Start.SUSPECT, 0);
+        ends.tell(3, 7, Start.SUSPECT, 0);
+        ends.rounds(1);
+        Check.same("P11 the first node and the last", ends.view(3, 0) + ends.view(3, 7), 6);
+        Check.same("P11 before a partner is drawn", ends.seed(), 1);
     }
 
     /** A node is declared dead falsely, hears of it in an answer, and is alive again for the other one. */

@@ -17,12 +17,13 @@ final class SaveTest {
 
     /** Changes all that there is; an object that restores then goes on like one that was left alone. */
     private static void change(GossipMembership g) {
-        g.setPatience(17);
+        g.setPatience(1);
         g.setFanOut(9);
         g.setHelpers(3);
         g.setSeed(99);
         g.tell(0, 0, Start.DEAD, 20);
         g.tell(1, 2, Start.SUSPECT, 7);
+        g.tell(1, 3, Start.SUSPECT, 7);
         g.tell(1, 7, Start.DEAD, 7);
         g.crash(2);
         Check.nameOf(() -> g.join(7, 7));
@@ -30,6 +31,7 @@ final class SaveTest {
         g.cut(2, 3, true);
         g.cut(0, 1, false);
         g.rounds(9);
+        g.setPatience(17);
     }
 
     private static GossipMembership begun() {
@@ -48,7 +50,11 @@ final class SaveTest {
 
     private static void everything() {
         GossipMembership g = begun();
+        int declarations = g.declarations();
+        int falseOnes = g.falseDeclarations();
         change(g);
+        Check.same("P37 there are declarations since", g.declarations() > declarations, true);
+        Check.same("P37 there are false ones since", g.falseDeclarations() > falseOnes, true);
         g.restore();
         Check.same("P37 all is as it was saved", Reading.all(g), Reading.all(begun()));
         GossipMembership further = begun();
@@ -76,6 +82,13 @@ final class SaveTest {
     }
 
     private static void replaced() {
+        GossipMembership waiting = Start.two();
+        waiting.tell(0, 7, Start.SUSPECT, 0);
+        waiting.save();
+        waiting.setPatience(15);
+        waiting.tell(0, 7, Start.SUSPECT, 1);
+        waiting.restore();
+        Check.same("P36 deadlines too", waiting.deadline(0, 7), 3);
         GossipMembership g = Start.two();
         g.save();
         g.rounds(3);
