@@ -12,6 +12,12 @@ public final class AllTests {
         MeasuresTest.run();
         TextTest.run();
         SaveTest.run();
+        RefusalsTest.run();
+        NodeSentencesTest.run();
+        NewsSentencesTest.run();
+        RoundSentencesTest.run();
+        MeasureSentencesTest.run();
+        TextSentencesTest.run();
         ModelTest.run();
         System.out.println("checks: " + Check.passed + " passed, " + Check.failed + " failed");
         if (Check.failed != 0) {

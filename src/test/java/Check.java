@@ -28,6 +28,9 @@ final class Check {
         GossipMembership called = start.get();
         raises(what, due, () -> call.accept(called));
         same(what + ", and then all", Reading.all(called), Reading.all(start.get()));
+        GossipMembership restored = start.get();
+        nameOf(() -> call.accept(restored));
+        same(what + ", and what is saved", Reading.saved(restored), Reading.saved(start.get()));
     }
 
     /** The name of the exception that a call throws, or "nothing". */

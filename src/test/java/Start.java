@@ -68,9 +68,40 @@ final class Start {
         return g;
     }
 
+    /** All eight nodes, which know each other, after the rounds that this takes. */
+    static GossipMembership full() {
+        GossipMembership g = fresh();
+        for (int node = 0; node < 8; node++) {
+            g.join(node, 0);
+        }
+        g.roundsUntilAgreement(100);
+        return g;
+    }
+
+    /**
+     * Node 7 alone takes a turn in the next round, which is the second: it knows node 6 alone, and
+     * all its counters are 0. Node 6 knows nobody and has a counter of 1 for itself.
+     */
+    static GossipMembership calm() {
+        GossipMembership g = fresh();
+        g.setFanOut(1);
+        g.join(6, 6);
+        g.join(7, 7);
+        g.tell(7, 6, ALIVE, 0);
+        g.rounds(1);
+        g.crash(6);
+        g.join(6, 6);
+        g.setFanOut(3);
+        return g;
+    }
+
     static void tellWithCount(GossipMembership g, int node, int about, int state, int count) {
+        tellWithCount(g, node, about, state, 0, count);
+    }
+
+    static void tellWithCount(GossipMembership g, int node, int about, int state, int incarnation, int count) {
         int fanOut = g.setFanOut(count);
-        g.tell(node, about, state, 0);
+        g.tell(node, about, state, incarnation);
         g.setFanOut(fanOut);
     }
 
