@@ -56,7 +56,7 @@ final class RoundSentencesTest {
         }
     }
 
-    /** "the thing with the number seed divided by 256, rounded down, modulo n": the seeds become 0, 255, 256 and so on. */
+    /** "the number seed divided by 256, rounded down, modulo n": the seeds become 0, 255, 256 and so on. */
     private static void thingsDrawn() {
         int[] seeds = {2088216195, 1202266142, 912460675, 26510622, 1884188803, 590183966, 300378499,
             230538014, 1116488067, 1406293534};
@@ -404,7 +404,7 @@ final class RoundSentencesTest {
         Check.same("helper: the round is quiet", g.quietRounds(), 1);
     }
 
-    /** "if the partner is alive in its view, it becomes suspect": one that is suspect stays so, after the same draws. */
+    /** "if the partner is alive in its view, it becomes suspect": one that is suspect stays as it is. */
     private static void probeOfASuspect() {
         GossipMembership g = unanswered();
         g.setPatience(20);

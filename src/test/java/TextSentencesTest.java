@@ -166,7 +166,7 @@ final class TextSentencesTest {
         }
     }
 
-    /** "the index of the first character that cannot continue a command text; .. the length .. if the text ends too early" */
+    /** "the first character that cannot continue a command text; .. the length .. if the text ends too early" */
     private static void faultAtEachPlace() {
         String good = "c0;j12;p33;r4;c7;j70;p01;r9;c6";
         for (int place = 0; place < good.length(); place++) {
@@ -245,7 +245,8 @@ final class TextSentencesTest {
 
     /** "The text is emptied also if an exception is thrown." */
     private static void emptiedInEachCase() {
-        String[] texts = {"r1", "", "x", "r1;", "c7", "r1;c7", fill('c', 40), "p00;".repeat(9) + "p00", "r1;".repeat(11) + "c7"};
+        String[] texts = {"r1", "", "x", "r1;", "c7", "r1;c7", fill('c', 40), "p00;".repeat(9) + "p00",
+            "r1;".repeat(11) + "c7"};
         for (String text : texts) {
             GossipMembership g = Start.two();
             Start.type(g, text);
