@@ -20,6 +20,7 @@ final class NodeSentencesTest {
         upBeforeAtAnyTime();
         contactIsTheNodeItself();
         fullNetworkJoins();
+        eachJoinsByEach();
     }
 
     /** "There are eight nodes, numbered from 0." */
@@ -330,5 +331,51 @@ final class NodeSentencesTest {
         Check.same("full: seven are left", g.crash(7), 7);
         Check.same("full: and eight again", g.join(7, 6), 1);
         Check.same("full: which knows them", g.alive(7), 0b1111111);
+    }
+
+    /**
+     * "When a node joins, the contact stands at its own place in the ascending order, news about the node
+     * itself can be refuted, and the contact takes in the incarnation that the node has then": with the
+     * contact and the node at each place, and news about the node older, equal and newer than it is.
+     */
+    private static void eachJoinsByEach() {
+        for (int node = 0; node < 8; node++) {
+            for (int contact = 0; contact < 8; contact++) {
+                for (int about = 0; node != contact && about < 9; about++) {
+                    joinsBy(node, contact, 1 + about / 3, about % 3);
+                }
+            }
+        }
+    }
+
+    private static void joinsBy(int node, int contact, int state, int incarnation) {
+        GossipMembership g = Start.fresh();
+        g.join(contact, contact);
+        g.tell(contact, contact, Start.DEAD, 4);
+        for (int third = 0; third < 8; third++) {
+            if (third != contact && third != node) {
+                g.tell(contact, third, 1 + third % 3, 10 + third);
+            }
+        }
+        g.join(node, node);
+        g.crash(node);
+        g.tell(contact, node, state, incarnation);
+        String what = node + " joins by " + contact + ", told of as " + state + " " + incarnation + ": ";
+        boolean refuted = state != Start.ALIVE && incarnation >= 1;
+        int due = refuted ? incarnation + 1 : 1;
+        Check.same(what + "\"Returns the incarnation of the node\"", g.join(node, contact), due);
+        Check.same(what + "which it has", g.incarnation(node), due);
+        Check.same(what + "refutations", g.refutations(), refuted ? 2 : 1);
+        Check.same(what + "for the contact alive", g.view(contact, node), Start.ALIVE);
+        Check.same(what + "as it is then", g.viewIncarnation(contact, node), Math.max(due, incarnation));
+        for (int third = 0; third < 8; third++) {
+            if (third != node) {
+                boolean itself = third == contact;
+                Check.same(what + "state " + third, g.view(node, third), itself ? Start.ALIVE : 1 + third % 3);
+                Check.same(what + "incarnation " + third, g.viewIncarnation(node, third), itself ? 5 : 10 + third);
+                Check.same(what + "counter " + third, g.counter(node, third), 3);
+            }
+        }
+        Check.same(what + "counter for itself", g.counter(node, node), 3);
     }
 }
